@@ -320,7 +320,7 @@ public final class FerryDecks {
     /**
      * The bodies of all members. One that fails sets the failure and answers 0; while it is set
      * no body begins, so those that asked come to their end without a test of their own, and
-     * what they make of the 0 is thrown away.
+     * what they make of the 0 is not used.
      */
     private static final class Bodies {
         /** Far above what any member needs; the kinds and members go five bodies deep at most. */
