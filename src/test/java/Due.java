@@ -5,6 +5,7 @@ final class Due {
     static final long LEAST = Long.MIN_VALUE;
     static final long LONG_CAST = LEAST + 1;
 
+    private static String sentence = "";
     private static int asked;
     private static int wrong;
 
@@ -15,11 +16,16 @@ final class Due {
         return LEAST + 10 + number;
     }
 
+    /** The document's words that the answers from here on are held against. */
+    static void sentence(String words) {
+        sentence = "[" + words + "] ";
+    }
+
     static void is(String call, long got, long want) {
         asked++;
         if (got != want) {
             wrong++;
-            System.out.println(call + " answered " + got + ", due is " + want);
+            System.out.println(sentence + call + " answered " + got + ", due is " + want);
         }
     }
 
@@ -32,7 +38,7 @@ final class Due {
         asked++;
         if (!Arrays.equals(got, want)) {
             wrong++;
-            System.out.println(call + " left the trace " + Arrays.toString(got)
+            System.out.println(sentence + call + " left the trace " + Arrays.toString(got)
                     + ", due is " + Arrays.toString(want));
         }
         is(call + ", trace(-1)", ferry.trace(-1), FerryDecks.BAD);
